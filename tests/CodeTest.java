@@ -20,6 +20,7 @@ public final class CodeTest {
         laidForJumps();
         laidForTargets();
         targetsOfDeadOnes();
+        leftByRet();
         firstIsTarget();
         sureWays();
         stores();
@@ -302,6 +303,20 @@ public final class CodeTest {
         vary(f);
         Due.parts(f, 0, LI, 1, 4, 0, 1, MOVE, 7, 0, 0, 2, JZ, 6, 7, 0, 3, LI, 7, 4, 0, 5, P_RET, 0, 7, 0, 5, MOVE, 7, 1,
                 0, 6, P_RET, 0, 7, 0, 7);
+    }
+
+    /** What RET leaves KNOWN is not LAID ahead of a TARGET: the one ahead of that is DEAD, or is the RET. */
+    private static void leftByRet() {
+        TemplateForge f = new TemplateForge();
+        Due.method(f, 1, 1, LOAD, 0, WHEN, 6, PUSH, 1, PUSH, 2, RET, 0, POP, 0, PUSH, 3, RET, 0);
+        vary(f);
+        Due.parts(f, 0, MOVE, 7, 0, 0, 0, JZ, 6, 7, 0, 1, LI, 8, 2, 0, 4, P_RET, 0, 8, 0, 4, LI, 7, 3, 0, 7, P_RET, 0,
+                7, 0, 7);
+        f = new TemplateForge();
+        Due.method(f, 1, 1, LOAD, 0, WHEN, 5, PUSH, 1, PUSH, 2, RET, 0, PUSH, 3, RET, 0);
+        vary(f);
+        Due.parts(f, 0, MOVE, 7, 0, 0, 0, JZ, 5, 7, 0, 1, LI, 8, 2, 0, 4, P_RET, 0, 8, 0, 4, LI, 7, 3, 0, 6, P_RET, 0,
+                7, 0, 6);
     }
 
     private static void firstIsTarget() {

@@ -6,7 +6,8 @@ import java.util.Random;
 public final class ModelTest {
     private static final int PUSH = 0, LOAD = 1, STORE = 2, ADD = 3, LESS = 7, JUMP = 9, WHEN = 10, CALL = 11;
     private static final int RET = 12, FIELD = 13, KEEP = 14, NEW = 15, GET = 16, SET = 17, DUP = 18, POP = 19;
-    private static final int[] VALUES = {0, 0, 1, 1, 2, 3, -1, 5, 20, 21, 7, 100, Integer.MAX_VALUE, Integer.MIN_VALUE};
+    private static final int[] VALUES =
+            {0, 0, 1, 1, 2, 3, -1, 5, 20, 21, 7, 100, Integer.MAX_VALUE, Integer.MIN_VALUE};
     private static int differing = 0;
 
     private Random random;
@@ -186,7 +187,8 @@ public final class ModelTest {
             }
         }
         for (int[] i : out) {
-            same("write(" + m + ", " + i[0] + ", " + i[1] + ")", forge.write(m, i[0], i[1]), model.write(m, i[0], i[1]));
+            same("write(" + m + ", " + i[0] + ", " + i[1] + ")", forge.write(m, i[0], i[1]),
+                    model.write(m, i[0], i[1]));
         }
     }
 
@@ -236,7 +238,8 @@ public final class ModelTest {
         }
         add(RET, 0);
         for (int[] i : out) {
-            same("write(" + m + ", " + i[0] + ", " + i[1] + ")", forge.write(m, i[0], i[1]), model.write(m, i[0], i[1]));
+            same("write(" + m + ", " + i[0] + ", " + i[1] + ")", forge.write(m, i[0], i[1]),
+                    model.write(m, i[0], i[1]));
         }
     }
 
@@ -337,7 +340,8 @@ public final class ModelTest {
         } else {
             // of METHODS not made up yet, how many ARGS is a guess: a wrong one is a FAULT, mostly
             int made = argsOf.size() - 1;
-            int callee = random.nextInt(made == 0 ? 4 : 8) == 0 ? random.nextInt(count) : random.nextInt(Math.max(made, 1));
+            boolean isAny = random.nextInt(made == 0 ? 4 : 8) == 0;
+            int callee = random.nextInt(isAny ? count : Math.max(made, 1));
             int args = callee < argsOf.size() ? argsOf.get(callee) : random.nextInt(3);
             for (int k = 0; k < args; k++) {
                 expression(level - 2, pile + k, count);

@@ -152,7 +152,8 @@ public final class ProgramsTest {
                 boolean isFault = filled < takes[op];
                 int after = filled - takes[op] + lays[op];
                 int want = op == RET ? filled : Math.max(filled, after + 1);
-                Due.due("look at op " + op + " with " + filled, lookAt(f, filled, op, x), isFault ? -100 - filled : want);
+                Due.due("look at op " + op + " with " + filled, lookAt(f, filled, op, x),
+                        isFault ? -100 - filled : want);
                 Due.due("fault of op " + op + " with " + filled, f.fault(), isFault ? 1 : 0);
                 Due.due("depth behind op " + op, f.depth(1, filled + 1), isFault || op == RET ? -1 : after);
                 Due.due("of(1, 7) of op " + op, f.of(1, 7), isFault ? -1 : want);
@@ -171,7 +172,8 @@ public final class ProgramsTest {
     }
 
     private static void wrongXs() {
-        int[][] opsAndFirstWrong = {{LOAD, 2}, {STORE, 2}, {CALL, 2}, {FIELD, 8}, {KEEP, 8}, {NEW, 4}, {GET, 4}, {SET, 4}};
+        int[][] opsAndFirstWrong =
+                {{LOAD, 2}, {STORE, 2}, {CALL, 2}, {FIELD, 8}, {KEEP, 8}, {NEW, 4}, {GET, 4}, {SET, 4}};
         for (int[] o : opsAndFirstWrong) {
             for (int x : new int[] {-1, o[1], o[1] - 1, LEAST, Integer.MAX_VALUE}) {
                 TemplateForge f = new TemplateForge();

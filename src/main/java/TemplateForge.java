@@ -237,6 +237,24 @@ public final class TemplateForge {
         }
     }
 
+    /** One for the machine and the smith, so that what is taken as constant is what would come of it. */
+    private static int reckoned(int partOp, int a, int b) {
+        switch (partOp) {
+            case P_ADD:
+                return a + b;
+            case P_SUB:
+                return a - b;
+            case P_MUL:
+                return a * b;
+            case P_DIV:
+                return b == 0 ? 0 : a / b;
+            case P_LESS:
+                return a < b ? 1 : 0;
+            default:
+                return a == b ? 1 : 0;
+        }
+    }
+
     /** All METHODS told so far. */
     private static final class Book {
         private final Program[] programs = new Program[METHODS];
@@ -868,24 +886,6 @@ public final class TemplateForge {
 
         private int worthOf(int r) {
             return r >= 0 && r < REGISTERS ? worth[r] : 0;
-        }
-    }
-
-    /** One for the machine and the smith, so that what is taken as constant is what would come of it. */
-    private static int reckoned(int partOp, int a, int b) {
-        switch (partOp) {
-            case P_ADD:
-                return a + b;
-            case P_SUB:
-                return a - b;
-            case P_MUL:
-                return a * b;
-            case P_DIV:
-                return b == 0 ? 0 : a / b;
-            case P_LESS:
-                return a < b ? 1 : 0;
-            default:
-                return a == b ? 1 : 0;
         }
     }
 
