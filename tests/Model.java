@@ -13,6 +13,8 @@ import java.util.TreeSet;
 final class Model {
     /** What tests may look at to know that a rare thing was met. */
     int failedInOld, failedBehindCall, failedInOldWhileCoded;
+    /** Nothing is put into CODE then: what comes of it must be the same. */
+    boolean byInstructionsAlone;
 
     private static final int LEAST = Integer.MIN_VALUE;
     private static final String NAMES =
@@ -260,7 +262,7 @@ final class Model {
         step();
         open++;
         calls++;
-        if (m.code == null && m.remembered.size() == 3) {
+        if (!byInstructionsAlone && m.code == null && m.remembered.size() == 3) {
             m.code = forge(m);
             m.latest = m.code;
             m.made++;
